@@ -490,6 +490,8 @@ public final class WeighGates {
 
         private int n;
         private long bits;
+        // By how many ones an input has more when it is 1 than when it is 0: in a gate the sign is
+        // that of its weight, and 0 says that it does not matter.
         private final int[] pulls = new int[MOST_INPUTS];
         private final int[] floors = new int[MOST_INPUTS];
         private final RowSums weighed = new RowSums();
