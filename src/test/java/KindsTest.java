@@ -75,11 +75,20 @@ public final class KindsTest {
         x = new WeighGates();
         for (int n = 1; n <= 4; n++) {
             due("gates(" + n + ")", x.gates(n), Oracle.leastWeighings(n).size());
+            due("tables that no witness proves to be no gates", withoutWitness(n), x.gates(n));
         }
         for (int n = 1; n <= 3; n++) {
             due("kinds(" + n + ", true)", x.kinds(n, true), Oracle.kinds(n, true));
             due("kinds(" + n + ", false)", x.kinds(n, false), Oracle.kinds(n, false));
         }
+    }
+
+    private static int withoutWitness(int n) {
+        int number = 0;
+        for (long bits = 0; bits <= Oracle.all(n); bits++) {
+            number += Oracle.witness(n, bits) == null ? 1 : 0;
+        }
+        return number;
     }
 
     private void allPairs() {

@@ -8,7 +8,8 @@ final class Oracle {
 
     static final int NONE = -1000000;
     private static final int[] KNOWN_GATES = {0, 4, 14, 104, 1882, 94572};
-    private static final int SUM_END = 20;
+    /** No gate needs a sum of sizes above 16; one more sum is tried, and must find nothing new. */
+    private static final int SUM_END = 18;
 
     /** Weights and behind them the bound. */
     private static final Map<Integer, Map<Long, int[]>> LEAST = new HashMap<>();
@@ -64,7 +65,7 @@ final class Oracle {
 
     private static Map<Long, int[]> findLeastWeighings(int n) {
         Map<Long, int[]> found = new HashMap<>();
-        for (int size = 0; found.size() < KNOWN_GATES[n] && size < SUM_END; size++) {
+        for (int size = 0; size < SUM_END; size++) {
             addWeighings(found, n, 0, size, new int[n]);
         }
         if (found.size() != KNOWN_GATES[n]) {
