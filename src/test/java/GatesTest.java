@@ -1,3 +1,4 @@
+import java.util.List;
 import java.util.Map;
 import java.util.Random;
 
@@ -17,6 +18,8 @@ public final class GatesTest {
         test.refusals();
         test.allOfFourInputs();
         test.allGatesOfFiveInputs();
+        test.likeOnes();
+        test.allRisingTablesOfFiveInputs();
         test.neighboursOfGates();
         test.randomTables();
         test.check.finish();
@@ -104,6 +107,25 @@ public final class GatesTest {
         }
     }
 
+    /** The order among least weighings of one table decides nothing: there never are two. */
+    private void likeOnes() {
+        due("weighings as small as the least", Oracle.likeOnes(5), 0);
+    }
+
+    /**
+     * That a table without a witness is a gate. Where an input makes one row 1 and another 0, these two
+     * rows and those beside them are a witness. So in a table without one each input works one way, and
+     * with some inputs turned, which changes neither side of the claim, the table is a rising one.
+     */
+    private void allRisingTablesOfFiveInputs() {
+        List<Long> rising = Oracle.risingTables(5);
+        due("rising tables of 5 inputs", rising.size(), 7581);
+        for (long bits : rising) {
+            load(5, bits);
+            due("gate of 5 inputs, bits " + bits, x.gate(2), Oracle.isGate(5, bits) ? 1 : 0);
+        }
+    }
+
     private void gate(int n, long bits) {
         String of = " of " + n + " inputs, bits " + bits;
         due("gate" + of, x.gate(2), 1);
@@ -113,7 +135,7 @@ public final class GatesTest {
         due("bound" + of, x.bound(2), Oracle.bound(n, bits));
         due("size" + of, x.size(2), Oracle.size(n, bits));
         due("witness" + of, x.witness(2, 0), NONE);
-        if (n < 5 || bits % 64 == 1) {
+        if (n < 5 || bits % 13 == 1) {
             due("slack" + of, x.slack(2), Oracle.slack(n, bits));
         }
     }

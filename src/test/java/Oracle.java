@@ -1,5 +1,7 @@
+import java.util.ArrayList;
 import java.util.Arrays;
 import java.util.HashMap;
+import java.util.List;
 import java.util.Map;
 import java.util.TreeSet;
 
@@ -13,6 +15,7 @@ final class Oracle {
 
     /** Weights and behind them the bound. */
     private static final Map<Integer, Map<Long, int[]>> LEAST = new HashMap<>();
+    private static int likeOnes;
     private static final int[][] CHIEFS = new int[5][];
     private static final int[][] FIRSTS = new int[4][];
 
@@ -115,11 +118,30 @@ final class Oracle {
 
     private static void putNew(Map<Long, int[]> found, int n, int[] weights, int bound) {
         long bits = weighed(n, weights, bound);
-        if (!found.containsKey(bits)) {
+        int[] earlier = found.get(bits);
+        if (earlier == null) {
             int[] all = Arrays.copyOf(weights, n + 1);
             all[n] = bound;
             found.put(bits, all);
+        } else if (sumOfSizes(n, earlier) == sumOfSizes(n, weights)) {
+            likeOnes++;
         }
+    }
+
+    private static int sumOfSizes(int n, int[] weights) {
+        int size = 0;
+        for (int i = 0; i < n; i++) {
+            size += Math.abs(weights[i]);
+        }
+        return size;
+    }
+
+    /** How many weighings of up to n inputs are of the least sum of sizes, as another of that table is. */
+    static int likeOnes(int n) {
+        for (int inputs = 1; inputs <= n; inputs++) {
+            leastWeighings(inputs);
+        }
+        return likeOnes;
     }
 
     static boolean isGate(int n, long bits) {
@@ -138,11 +160,7 @@ final class Oracle {
         if (!isGate(n, bits)) {
             return NONE;
         }
-        int size = 0;
-        for (int i = 0; i < n; i++) {
-            size += Math.abs(weight(n, bits, i));
-        }
-        return size;
+        return sumOfSizes(n, leastWeighings(n).get(bits));
     }
 
     static int slack(int n, long bits) {
@@ -199,6 +217,22 @@ final class Oracle {
             }
         }
         return true;
+    }
+
+    /** The tables that an input turned from 0 to 1 never makes 0: of each two halves the lower has no more ones. */
+    static List<Long> risingTables(int n) {
+        if (n == 0) {
+            return List.of(0L, 1L);
+        }
+        List<Long> rising = new ArrayList<>();
+        for (long low : risingTables(n - 1)) {
+            for (long high : risingTables(n - 1)) {
+                if ((low & ~high) == 0) {
+                    rising.add(low + (high << rows(n - 1)));
+                }
+            }
+        }
+        return rising;
     }
 
     // ---- kinds: what can be reached by one change after the other
