@@ -65,9 +65,8 @@ final class Edges {
         return x;
     }
 
-    /** A net of two inputs: gate 0 tells both, gate 1 that they are unlike; and what is put. */
-    static WeighGates busy() {
-        WeighGates x = withTables();
+    /** A net of two inputs: gate 0 tells both, gate 1 that they are unlike. */
+    static void netOfUnlike(WeighGates x) {
         x.net(2);
         x.put(0, 1);
         x.put(1, 1);
@@ -76,6 +75,12 @@ final class Edges {
         x.put(1, 1);
         x.put(2, -2);
         x.add(1);
+    }
+
+    /** That net, and weights that are put for its next gate. */
+    static WeighGates busy() {
+        WeighGates x = withTables();
+        netOfUnlike(x);
         x.put(0, 3);
         x.put(1, -4);
         x.put(2, 5);

@@ -2,11 +2,10 @@
 public final class KindsTest {
 
     private static final int NONE = WeighGates.NONE;
-    private static final int TABLES_FOR_ONE_OBJECT = 100;
 
     private final Check check = new Check();
+    private final Tabled tabled = new Tabled(5);
     private WeighGates x = new WeighGates();
-    private int tables;
 
     public static void main(String[] args) {
         KindsTest test = new KindsTest();
@@ -19,13 +18,6 @@ public final class KindsTest {
 
     private void due(String call, long got, long want) {
         check.due(call, got, want);
-    }
-
-    private void load(int n, long bits) {
-        if (tables++ % TABLES_FOR_ONE_OBJECT == 0) {
-            x = new WeighGates();
-        }
-        x.table(5, n, bits);
     }
 
     private void refusals() {
@@ -61,7 +53,7 @@ public final class KindsTest {
                 members[chief]++;
             }
             for (int bits = 0; bits <= Oracle.all(n); bits++) {
-                load(n, bits);
+                x = tabled.with(n, bits);
                 int chief = Oracle.chiefs(n)[bits];
                 String of = " of " + n + " inputs, bits " + bits;
                 due("chief" + of, x.chief(5), chief);
@@ -94,7 +86,7 @@ public final class KindsTest {
     private void allPairs() {
         for (int n = 1; n <= 3; n++) {
             for (int bits = 0; bits <= Oracle.all(n); bits++) {
-                load(n, bits);
+                x = tabled.with(n, bits);
                 boolean gate = Oracle.isGate(n, bits);
                 int first = Oracle.first(n, bits);
                 String of = " of " + n + " inputs, bits " + bits;

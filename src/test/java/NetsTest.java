@@ -26,14 +26,7 @@ public final class NetsTest {
     /** Two inputs, gate 0 tells both, gate 1 tells that they are unlike. */
     private void start() {
         x = new WeighGates();
-        x.net(2);
-        x.put(0, 1);
-        x.put(1, 1);
-        x.add(2);
-        x.put(0, 1);
-        x.put(1, 1);
-        x.put(2, -2);
-        x.add(1);
+        Edges.netOfUnlike(x);
     }
 
     private void unchanged(String after) {

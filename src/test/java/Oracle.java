@@ -12,6 +12,7 @@ final class Oracle {
     private static final int[] KNOWN_GATES = {0, 4, 14, 104, 1882, 94572};
     /** No gate needs a sum of sizes above 16; one more sum is tried, and must find nothing new. */
     private static final int SUM_END = 18;
+    private static final int FARTHEST_NET_WEIGHT = 9;
 
     /** Weights and behind them the bound. */
     private static final Map<Integer, Map<Long, int[]>> LEAST = new HashMap<>();
@@ -167,12 +168,18 @@ final class Oracle {
         if (!isGate(n, bits)) {
             return NONE;
         }
-        int[] weighing = leastWeighings(n).get(bits);
         int e = 0;
-        while (e < 1000 && maybeOff(n, bits, weighing, e + 1)) {
+        while (e < 1000 && maybeOff(n, bits, leastWeighings(n).get(bits), e + 1)) {
             e++;
         }
         return e;
+    }
+
+    /** Whether this is the slack of a gate, without trying all that is less: what may be off by e may be by less. */
+    static boolean isSlack(int n, long bits, int e) {
+        int[] weighing = leastWeighings(n).get(bits);
+        return e >= 0 && e <= 1000 && maybeOff(n, bits, weighing, e)
+                && (e == 1000 || !maybeOff(n, bits, weighing, e + 1));
     }
 
     /** Tries each weight e thousandths more and e thousandths less, in all choices of these. */
@@ -308,7 +315,7 @@ final class Oracle {
         return kinds;
     }
 
-    // ---- nets of two: each first gate with many second ones
+    // ---- nets of two: each first gate with all second ones
 
     static int first(int n, long bits) {
         if (isGate(n, bits)) {
@@ -325,35 +332,36 @@ final class Oracle {
         Arrays.fill(firsts, NONE);
         long[] ascending = leastWeighings(n).keySet().stream().mapToLong(x -> x).sorted().toArray();
         for (long told : ascending) {
-            addSeconds(firsts, n, told, 0, new int[n + 1]);
+            addSeconds(firsts, n, told, 0, new int[rows(n)]);
         }
         return firsts;
     }
 
-    private static void addSeconds(int[] firsts, int n, long told, int i, int[] weights) {
-        int farthest = i < n ? 3 : 9;
-        for (int w = -farthest; w <= farthest; w++) {
-            weights[i] = w;
-            if (i < n) {
-                addSeconds(firsts, n, told, i + 1, weights);
-            } else {
-                addSecondBounds(firsts, n, told, weights);
+    /** Tries all weights of inputs from i on, and behind these of the first gate; the sums are those so far. */
+    private static void addSeconds(int[] firsts, int n, long told, int i, int[] sums) {
+        if (i > n) {
+            addSecondBounds(firsts, (int) told, sums);
+            return;
+        }
+        for (int w = -FARTHEST_NET_WEIGHT; w <= FARTHEST_NET_WEIGHT; w++) {
+            int[] with = sums.clone();
+            for (int row = 0; row < rows(n); row++) {
+                boolean on = i < n ? (row >> i) % 2 == 1 : one(told, row);
+                with[row] += on ? w : 0;
             }
+            addSeconds(firsts, n, told, i + 1, with);
         }
     }
 
-    private static void addSecondBounds(int[] firsts, int n, long told, int[] weights) {
-        int[] sums = new int[rows(n)];
-        for (int row = 0; row < rows(n); row++) {
-            sums[row] = sum(n, weights, row) + (one(told, row) ? weights[n] : 0);
-        }
+    /** Other bounds give no more: each tells what the next greater sum tells, or, above all sums, 0 always. */
+    private static void addSecondBounds(int[] firsts, int told, int[] sums) {
         for (int bound : sums) {
             int bits = 0;
-            for (int row = 0; row < rows(n); row++) {
+            for (int row = 0; row < sums.length; row++) {
                 bits += sums[row] >= bound ? 1 << row : 0;
             }
             if (firsts[bits] == NONE) {
-                firsts[bits] = (int) told;
+                firsts[bits] = told;
             }
         }
     }
